@@ -6,7 +6,7 @@ import java.util.Map;
 import java.util.TreeMap;
 
 /** A second writing of the document, by big integers and collections; the TALLY opens by f0 itself, not by SHARES. */
-final class Model {
+final class Model implements Election {
     private static final BigInteger G = BigInteger.valueOf(4);
 
     private record Ballot(BigInteger a, BigInteger b) {
@@ -105,7 +105,8 @@ final class Model {
         return stage >= 2 && i >= 0 && i < lists.get(0).size();
     }
 
-    boolean secret(int i, int v) {
+    @Override
+    public boolean secret(int i, int v) {
         if (stage != 0 || i < 0 || i >= k || !exponent(v) || (i == 0 && v == 0)) {
             return false;
         }
@@ -113,7 +114,8 @@ final class Model {
         return true;
     }
 
-    int key() {
+    @Override
+    public int key() {
         if (stage != 0) {
             return -1;
         }
@@ -123,18 +125,21 @@ final class Model {
         return h.intValue();
     }
 
-    int voter() {
+    @Override
+    public int voter() {
         return stage >= 2 || voters == 40 ? -1 : voters++;
     }
 
-    long cast(int voter, int candidate, int r) {
+    @Override
+    public long cast(int voter, int candidate, int r) {
         if (candidate < 0 || candidate >= c || !exponent(r)) {
             return 0;
         }
         return castBallot(voter, anew(new Ballot(BigInteger.ONE, mark(candidate)), BigInteger.valueOf(r)));
     }
 
-    long castPair(int voter, int a, int b) {
+    @Override
+    public long castPair(int voter, int a, int b) {
         if (!member(a) || !member(b)) {
             return 0;
         }
@@ -149,7 +154,8 @@ final class Model {
         return post(2, voter, ballot.a.longValue(), ballot.b.longValue());
     }
 
-    int close() {
+    @Override
+    public int close() {
         if (stage != 1) {
             return -1;
         }
@@ -159,7 +165,8 @@ final class Model {
         return latest().size();
     }
 
-    boolean place(int i, int to, int r) {
+    @Override
+    public boolean place(int i, int to, int r) {
         if (stage != 2 || !spot(i) || !spot(to) || !exponent(r)) {
             return false;
         }
@@ -167,7 +174,8 @@ final class Model {
         return true;
     }
 
-    boolean forge(int to, int a, int b) {
+    @Override
+    public boolean forge(int to, int a, int b) {
         if (stage != 2 || !spot(to) || !member(a) || !member(b)) {
             return false;
         }
@@ -201,7 +209,8 @@ final class Model {
         return stage == 2 && whole() && !due && gifts.isEmpty();
     }
 
-    int mix() {
+    @Override
+    public int mix() {
         if (!shuffles() || roundsOfMixes.size() == 4) {
             return -1;
         }
@@ -216,7 +225,8 @@ final class Model {
         return roundsOfMixes.isEmpty() ? 0 : roundsOfMixes.get(roundsOfMixes.size() - 1);
     }
 
-    int shadow() {
+    @Override
+    public int shadow() {
         if (!shuffles() || roundsOfMixes.isEmpty() || rounds() == 8) {
             return -1;
         }
@@ -228,7 +238,8 @@ final class Model {
         return rounds();
     }
 
-    int coin(int coin) {
+    @Override
+    public int coin(int coin) {
         if (!due || coin < 0 || coin > 1) {
             return -1;
         }
@@ -254,7 +265,8 @@ final class Model {
         return accepted ? 1 : 0;
     }
 
-    int share(int j) {
+    @Override
+    public int share(int j) {
         if (stage != 2 || j < 1 || j > t || gifts.containsKey(j) || roundsOfMixes.isEmpty() || due) {
             return -1;
         }
@@ -274,7 +286,8 @@ final class Model {
         return gifts.size();
     }
 
-    int tally() {
+    @Override
+    public int tally() {
         if (stage != 2 || rejected > 0 || roundsOfMixes.contains(0) || gifts.size() < k) {
             return -1;
         }
@@ -296,11 +309,13 @@ final class Model {
         return latest().size() - counts[c];
     }
 
-    int count(int candidate) {
+    @Override
+    public int count(int candidate) {
         return stage == 3 && candidate >= 0 && candidate <= c ? counts[candidate] : -1;
     }
 
-    int about(int what) {
+    @Override
+    public int about(int what) {
         if (what < 0 || what > 15) {
             return -1;
         }
@@ -314,26 +329,31 @@ final class Model {
         return part == 0 ? ballot.a.intValue() : part == 1 ? ballot.b.intValue() : -1;
     }
 
-    int list(int m, int i, int part) {
+    @Override
+    public int list(int m, int i, int part) {
         return m >= 0 && m < lists.size() && spot(i) ? part(lists.get(m).get(i), part) : -1;
     }
 
-    int shadowOf(int i, int part) {
+    @Override
+    public int shadowOf(int i, int part) {
         return shadow != null && spot(i) ? part(shadow.get(i), part) : -1;
     }
 
-    int shown(int i, int what) {
+    @Override
+    public int shown(int i, int what) {
         if (shown == null || !shown.containsKey(i)) {
             return -1;
         }
         return what == 0 ? shown.get(i).to : what == 1 ? shown.get(i).r.intValue() : -1;
     }
 
-    int given(int j, int i) {
+    @Override
+    public int given(int j, int i) {
         return gifts.containsKey(j) && spot(i) ? gifts.get(j).get(i).intValue() : -1;
     }
 
-    long entry(int i, int what) {
+    @Override
+    public long entry(int i, int what) {
         if (i < 0 || i >= board.size() || what < 0 || what > 3) {
             return 0;
         }
@@ -341,7 +361,8 @@ final class Model {
         return new long[] {entry.kind, entry.x, entry.y, entry.z}[what];
     }
 
-    long chain(int i) {
+    @Override
+    public long chain(int i) {
         if (i == -1) {
             return new BigInteger("14695981039346656037").longValue();
         }

@@ -1,15 +1,18 @@
+import java.util.Collections;
+import java.util.List;
 import java.util.Random;
 
-/** Random runs of up to 512 calls on fresh objects: each answer is compared with the Model's. */
+/** Random runs of up to 512 calls on fresh objects: each answer is compared with the Model's, and at the end a look. */
 public final class ModelTests {
     private static final int RUNS = 3000;
-    private static final int CALLS = 512;
+    /** Of so many fresh objects that play the run again, each asked as much as 512 calls leave room for. */
+    private static final int OBJECTS_FOR_THE_LOOK = 3;
     private static final int[] WRONG = {-1, -2, Integer.MIN_VALUE, Integer.MAX_VALUE, 600, 41};
 
     private final Random random;
-    private final MixElection x;
+    private final Run x;
     private final Model model;
-    private final StringBuilder told = new StringBuilder();
+    private final int calls;
     private final int voters;
     private final int wrongOneIn;
     private final int forgedOneIn;
@@ -22,13 +25,13 @@ public final class ModelTests {
         int candidates = random.nextInt(14) - 1;
         int trustees = random.nextInt(8) - 1;
         int threshold = random.nextInt(8) - 1;
-        x = new MixElection(prime, candidates, trustees, threshold);
+        x = new Run(prime, candidates, trustees, threshold);
         model = new Model(prime, candidates, trustees, threshold);
         voters = random.nextInt(4) == 0 ? random.nextInt(42) : random.nextInt(8);
         wrongOneIn = random.nextBoolean() ? 12 : 200;
         forgedOneIn = random.nextBoolean() ? 20 : 100000;
         castsWanted = random.nextInt(25) == 0 ? 520 : voters * 2;
-        told.append("seed ").append(seed).append(": ");
+        calls = castsWanted > 500 ? Run.MOST_CALLS - 1 : 100 + random.nextInt(Run.MOST_CALLS - 100);
     }
 
     private static int reachedTold = 0;
@@ -48,7 +51,7 @@ public final class ModelTests {
     }
 
     private void go() {
-        for (int call = 0; call < CALLS && Due.wrong() == 0; call++) {
+        for (int call = 0; call < calls && Due.wrong() == 0; call++) {
             if (random.nextInt(4) == 0) {
                 ask();
             } else if (random.nextInt(25) == 0) {
@@ -57,7 +60,7 @@ public final class ModelTests {
                 act(next());
             }
         }
-        askAll();
+        look();
     }
 
     /** An act that brings the election on. */
@@ -110,8 +113,7 @@ public final class ModelTests {
     }
 
     private void same(String call, long got, long want) {
-        told.append(call).append(" -> ").append(got).append("; ");
-        Due.same(got == want ? call : told.toString(), got, want);
+        Due.same(got == want ? call : x.toString(), got, want);
     }
 
     private void act(int act) {
@@ -208,31 +210,15 @@ public final class ModelTests {
         }
     }
 
-    /** The whole state, as far as it can be asked for. */
-    private void askAll() {
-        for (int what = -1; what <= 16; what++) {
-            same("about(" + what + ")", x.about(what), model.about(what));
-        }
-        for (int i = -2; i <= 601; i++) {
-            same("chain(" + i + ")", x.chain(i), model.chain(i));
-            for (int what = -1; what <= 4; what++) {
-                same("entry(" + i + ", " + what + ")", x.entry(i, what), model.entry(i, what));
-            }
-        }
-        for (int i = -1; i <= 41; i++) {
-            for (int part = -1; part <= 2; part++) {
-                for (int m = -1; m <= 5; m++) {
-                    same("list(" + m + ", " + i + ", " + part + ")", x.list(m, i, part), model.list(m, i, part));
-                }
-                same("shadowOf(" + i + ", " + part + ")", x.shadowOf(i, part), model.shadowOf(i, part));
-                same("shown(" + i + ", " + part + ")", x.shown(i, part), model.shown(i, part));
-            }
-            for (int j = -1; j <= 7; j++) {
-                same("given(" + j + ", " + i + ")", x.given(j, i), model.given(j, i));
-            }
-        }
-        for (int c = -1; c <= 12; c++) {
-            same("count(" + c + ")", x.count(c), model.count(c));
+    /** At the whole state if there is room for it, else at as much of it, taken here and there. */
+    private void look() {
+        List<Look.Question> questions = Look.questions(x);
+        Collections.shuffle(questions, random);
+        questions = questions.subList(0, Math.min(questions.size(), OBJECTS_FOR_THE_LOOK * x.left()));
+        List<Long> seen = Look.behind(x, questions);
+        for (int i = 0; i < seen.size(); i++) {
+            long want = questions.get(i).asked().applyAsLong(model);
+            Due.same(seen.get(i) == want ? "look" : questions.get(i).text() + " behind " + x, seen.get(i), want);
         }
     }
 }

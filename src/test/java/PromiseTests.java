@@ -1,5 +1,3 @@
-import java.math.BigInteger;
-
 /** Each promise of the document by itself: ordinary inputs, the edges it names, wrong inputs. */
 public final class PromiseTests {
     private static final int NONE = MixElection.NONE;
@@ -12,7 +10,6 @@ public final class PromiseTests {
         key();
         voter();
         cast();
-        castUpTo500Entries();
         castPair();
         close();
         place();
@@ -22,7 +19,6 @@ public final class PromiseTests {
         coin();
         share();
         tally();
-        tallyByAnyEnoughTrustees();
         count();
         about();
         list();
@@ -36,29 +32,17 @@ public final class PromiseTests {
 
     // ---- what the tests share
 
-    private static long digest(long from, long... row) {
-        long d = from;
-        for (long x : row) {
-            d = (d ^ x) * 1099511628211L;
-        }
-        return d;
-    }
-
-    private static int pow(int base, int exponent, int modulus) {
-        return BigInteger.valueOf(base).modPow(BigInteger.valueOf(exponent), BigInteger.valueOf(modulus)).intValue();
-    }
-
-    private static void entryIs(MixElection x, int i, long kind, long a, long b, long c) {
+    private static void entryIs(Run x, int i, long kind, long a, long b, long c) {
         Due.same("entry " + i + " kind", x.entry(i, 0), kind);
         Due.same("entry " + i + " x", x.entry(i, 1), a);
         Due.same("entry " + i + " y", x.entry(i, 2), b);
         Due.same("entry " + i + " z", x.entry(i, 3), c);
-        Due.same("entry " + i + " chain", x.chain(i), digest(x.chain(i - 1), kind, a, b, c));
+        Due.same("entry " + i + " chain", x.chain(i), Reckon.digest(x.chain(i - 1), kind, a, b, c));
     }
 
     /** P 23, Q 11, KEY 4^3 = 18, two candidates, three trustees of whom two are needed, f(x) = 3 + 5 x. */
-    private static MixElection open(int voters) {
-        MixElection x = new MixElection(23, 2, 3, 2);
+    private static Run open(int voters) {
+        Run x = new Run(23, 2, 3, 2);
         Due.yes("secret f0", x.secret(0, 3));
         Due.yes("secret f1", x.secret(1, 5));
         for (int v = 0; v < voters; v++) {
@@ -69,8 +53,8 @@ public final class PromiseTests {
     }
 
     /** CLOSED, with a ballot of each voter: for candidate v % 2, with the exponent v + 1. */
-    private static MixElection closed(int voters) {
-        MixElection x = open(voters);
+    private static Run closed(int voters) {
+        Run x = open(voters);
         for (int v = 0; v < voters; v++) {
             x.cast(v, v % 2, (v + 1) % 11);
         }
@@ -79,36 +63,36 @@ public final class PromiseTests {
     }
 
     /** Places each i at i + step, with the exponent r. */
-    private static void stage(MixElection x, int step, int r) {
+    private static void stage(Run x, int step, int r) {
         int n = x.about(9);
         for (int i = 0; i < n; i++) {
             Due.yes("place", x.place(i, (i + step) % n, r));
         }
     }
 
-    private static void mixWith(MixElection x, int step, int r) {
+    private static void mixWith(Run x, int step, int r) {
         stage(x, step, r);
         Due.yes("a mix", x.mix() > 0);
     }
 
-    private static int roundWith(MixElection x, int step, int r, int coin) {
+    private static int roundWith(Run x, int step, int r, int coin) {
         stage(x, step, r);
         Due.yes("a shadow", x.shadow() > 0);
         return x.coin(coin);
     }
 
-    private static long digestOfList(MixElection x, int m) {
+    private static long digestOfList(Run x, int m) {
         long d = 0;
         for (int i = 0; i < x.about(9); i++) {
-            d = digest(d, x.list(m, i, 0), x.list(m, i, 1));
+            d = Reckon.digest(d, x.list(m, i, 0), x.list(m, i, 1));
         }
         return d;
     }
 
-    private static long digestOfShadow(MixElection x) {
+    private static long digestOfShadow(Run x) {
         long d = 0;
         for (int i = 0; i < x.about(9); i++) {
-            d = digest(d, x.shadowOf(i, 0), x.shadowOf(i, 1));
+            d = Reckon.digest(d, x.shadowOf(i, 0), x.shadowOf(i, 1));
         }
         return d;
     }
@@ -116,7 +100,7 @@ public final class PromiseTests {
     // ---- promise 1
 
     private static void made(int prime, int c, int t, int k, int... want) {
-        MixElection x = new MixElection(prime, c, t, k);
+        Run x = new Run(prime, c, t, k);
         String text = "new(" + prime + ", " + c + ", " + t + ", " + k + ") about ";
         Due.same(text + "P", x.about(0), want[0]);
         Due.same(text + "Q", x.about(1), (want[0] - 1) / 2);
@@ -136,30 +120,12 @@ public final class PromiseTests {
         made(MAX, 0, 2, -4, 999959, 1, 2, 1);
         made(999959, 5, 5, 5, 999959, 5, 5, 5);
         made(999960, 5, 5, 2, 999959, 5, 5, 2);
-        safePrimes();
-    }
-
-    private static boolean isSafePrime(int p) {
-        return BigInteger.valueOf(p).isProbablePrime(40) && BigInteger.valueOf((p - 1) / 2).isProbablePrime(40);
-    }
-
-    /** Each safe prime itself, and the number behind each, which is where the least one not below jumps. */
-    private static void safePrimes() {
-        int next = 999959;
-        Due.yes("999959 is safe", isSafePrime(next));
-        for (int n = 999958; n >= 11; n--) {
-            if (isSafePrime(n)) {
-                Due.same("P from " + (n + 1), new MixElection(n + 1, 1, 1, 1).about(0), next);
-                Due.same("P from " + n, new MixElection(n, 1, 1, 1).about(0), n);
-                next = n;
-            }
-        }
     }
 
     // ---- promises 2 to 7
 
     private static void secret() {
-        MixElection x = new MixElection(11, 3, 4, 3);
+        Run x = new Run(11, 3, 4, 3);
         Due.yes("f0 1", x.secret(0, 1));
         Due.yes("f0 4", x.secret(0, 4));
         Due.no("f0 0", x.secret(0, 0));
@@ -174,13 +140,13 @@ public final class PromiseTests {
         Due.no("f-1", x.secret(-1, 1));
         Due.no("f min", x.secret(MIN, 1));
         Due.no("f max", x.secret(MAX, 1));
-        Due.same("the refused ones changed nothing", x.key(), pow(4, 4, 11));
+        Due.same("the refused ones changed nothing", x.key(), Reckon.pow(4, 4, 11));
         Due.no("no longer in SETUP", x.secret(0, 1));
-        Due.same("the key stays", x.about(2), pow(4, 4, 11));
+        Due.same("the key stays", x.about(2), Reckon.pow(4, 4, 11));
     }
 
     private static void key() {
-        MixElection x = new MixElection(47, 3, 4, 3);
+        Run x = new Run(47, 3, 4, 3);
         Due.same("H in SETUP", x.about(2), 0);
         Due.same("f0 is 1 at first", x.key(), 4);
         Due.same("stage", x.about(7), 1);
@@ -190,13 +156,13 @@ public final class PromiseTests {
         Due.same("no other entry", x.about(8), 1);
         x.close();
         Due.same("when CLOSED", x.key(), NONE);
-        MixElection y = new MixElection(999959, 1, 1, 1);
+        Run y = new Run(999959, 1, 1, 1);
         y.secret(0, 499978);
-        Due.same("a great key", y.key(), pow(4, 499978, 999959));
+        Due.same("a great key", y.key(), Reckon.pow(4, 499978, 999959));
     }
 
     private static void voter() {
-        MixElection x = new MixElection(11, 1, 1, 1);
+        Run x = new Run(11, 1, 1, 1);
         for (int v = 0; v < 20; v++) {
             Due.same("voter in SETUP", x.voter(), v);
         }
@@ -206,7 +172,7 @@ public final class PromiseTests {
         }
         Due.same("the 41st", x.voter(), NONE);
         Due.same("voters", x.about(6), 40);
-        MixElection y = closed(1);
+        Run y = closed(1);
         Due.same("when CLOSED", y.voter(), NONE);
         mixWith(y, 0, 0);
         roundWith(y, 0, 0, 0);
@@ -218,18 +184,18 @@ public final class PromiseTests {
     }
 
     private static void cast() {
-        MixElection x = new MixElection(23, 2, 3, 2);
+        Run x = new Run(23, 2, 3, 2);
         x.voter();
         x.voter();
         Due.same("in SETUP", x.cast(0, 0, 1), 0);
         x.secret(0, 3);
         x.key();
         long ahead = x.chain(0);
-        int a = pow(4, 10, 23);
-        int b = pow(4, 2, 23) * pow(18, 10, 23) % 23;
-        Due.same("cast", x.cast(1, 1, 10), digest(ahead, 2, 1, a, b));
+        int a = Reckon.pow(4, 10, 23);
+        int b = Reckon.pow(4, 2, 23) * Reckon.pow(18, 10, 23) % 23;
+        Due.same("cast", x.cast(1, 1, 10), Reckon.digest(ahead, 2, 1, a, b));
         entryIs(x, 1, 2, 1, a, b);
-        Due.same("exponent 0", x.cast(0, 0, 0), digest(x.chain(1), 2, 0, 1, 4));
+        Due.same("exponent 0", x.cast(0, 0, 0), Reckon.digest(x.chain(1), 2, 0, 1, 4));
         for (int wrong : new int[] {-1, MIN, MAX}) {
             Due.same("no such voter", x.cast(wrong, 0, 1), 0);
             Due.same("no such candidate", x.cast(0, wrong, 1), 0);
@@ -244,32 +210,18 @@ public final class PromiseTests {
         Due.same("entries", x.about(8), 4);
     }
 
-    private static void castUpTo500Entries() {
-        MixElection x = open(1);
-        for (int n = 1; n < 500; n++) {
-            long chain = x.cast(0, n % 2, n % 11);
-            Due.yes("cast " + n, chain != 0 && chain == x.chain(n));
-        }
-        Due.same("entries", x.about(8), 500);
-        Due.same("cast behind 500", x.cast(0, 0, 1), 0);
-        Due.same("castPair behind 500", x.castPair(0, 1, 1), 0);
-        Due.same("entries stay", x.about(8), 500);
-        Due.same("close", x.close(), 1);
-        entryIs(x, 500, 3, 1, 0, digest(0, pow(4, 499 % 11, 23), pow(4, 2, 23) * pow(18, 499 % 11, 23) % 23));
-    }
-
     private static void castPair() {
-        MixElection x = new MixElection(23, 2, 3, 2);
+        Run x = new Run(23, 2, 3, 2);
         x.voter();
         Due.same("in SETUP", x.castPair(0, 4, 4), 0);
         x.key();
         int at = 1;
         for (int a = -2; a < 26; a++) {
-            boolean inGroup = a >= 1 && a <= 22 && pow(a, 11, 23) == 1;
-            long want = inGroup ? digest(x.chain(at - 1), 2, 0, a, 4) : 0;
+            boolean inGroup = a >= 1 && a <= 22 && Reckon.pow(a, 11, 23) == 1;
+            long want = inGroup ? Reckon.digest(x.chain(at - 1), 2, 0, a, 4) : 0;
             Due.same("castPair(0, " + a + ", 4)", x.castPair(0, a, 4), want);
             at += inGroup ? 1 : 0;
-            want = inGroup ? digest(x.chain(at - 1), 2, 0, 4, a) : 0;
+            want = inGroup ? Reckon.digest(x.chain(at - 1), 2, 0, 4, a) : 0;
             Due.same("castPair(0, 4, " + a + ")", x.castPair(0, 4, a), want);
             at += inGroup ? 1 : 0;
         }
@@ -282,15 +234,15 @@ public final class PromiseTests {
         Due.same("b max", x.castPair(0, 4, MAX), 0);
         x.close();
         Due.same("when CLOSED", x.castPair(0, 4, 4), 0);
-        MixElection y = new MixElection(999959, 2, 3, 2);
+        Run y = new Run(999959, 2, 3, 2);
         y.voter();
         y.key();
         Due.same("P - 1 is none", y.castPair(0, 999958, 1), 0);
-        Due.yes("a great square", y.castPair(0, pow(999957, 2, 999959), pow(777777, 2, 999959)) != 0);
+        Due.yes("a great square", y.castPair(0, Reckon.pow(999957, 2, 999959), Reckon.pow(777777, 2, 999959)) != 0);
     }
 
     private static void close() {
-        MixElection x = new MixElection(23, 2, 3, 2);
+        Run x = new Run(23, 2, 3, 2);
         Due.same("in SETUP", x.close(), NONE);
         for (int v = 0; v < 5; v++) {
             x.voter();
@@ -307,19 +259,19 @@ public final class PromiseTests {
         for (int i = 0; i < 6; i++) {
             Due.same("by voters, the last of each", x.list(0, i / 2, i % 2), want[i]);
         }
-        entryIs(x, 5, 3, 3, 0, digest(0, 1, 1, 8, 9, 6, 12));
-        MixElection y = open(0);
+        entryIs(x, 5, 3, 3, 0, Reckon.digest(0, 1, 1, 8, 9, 6, 12));
+        Run y = open(0);
         Due.same("no ballot", y.close(), 0);
         entryIs(y, 1, 3, 0, 0, 0);
-        MixElection z = closed(40);
+        Run z = closed(40);
         Due.same("40 ballots", z.about(9), 40);
-        Due.same("the last place", z.list(0, 39, 0), pow(4, 40 % 11, 23));
+        Due.same("the last place", z.list(0, 39, 0), Reckon.pow(4, 40 % 11, 23));
     }
 
     // ---- promises 8 to 14
 
     private static void place() {
-        MixElection x = open(3);
+        Run x = open(3);
         for (int v = 0; v < 3; v++) {
             x.cast(v, 0, v);
         }
@@ -338,8 +290,8 @@ public final class PromiseTests {
         }
         Due.same("whole", x.about(15), 1);
         x.mix();
-        Due.same("the last told of place 0", x.list(1, 1, 0), pow(4, 3, 23));
-        Due.same("its b", x.list(1, 1, 1), 4 * pow(18, 3, 23) % 23);
+        Due.same("the last told of place 0", x.list(1, 1, 0), Reckon.pow(4, 3, 23));
+        Due.same("its b", x.list(1, 1, 1), 4 * Reckon.pow(18, 3, 23) % 23);
         stage(x, 0, 1);
         x.shadow();
         Due.yes("while a coin is due", x.place(0, 0, 1));
@@ -350,11 +302,11 @@ public final class PromiseTests {
         Due.same("tally", x.tally(), 3);
         Due.no("when TOLD", x.place(0, 0, 1));
         Due.no("no ballots, no places", closed(0).place(0, 0, 0));
-        Due.no("in SETUP", new MixElection(23, 2, 3, 2).place(0, 0, 0));
+        Due.no("in SETUP", new Run(23, 2, 3, 2).place(0, 0, 0));
     }
 
     private static void forge() {
-        MixElection x = open(2);
+        Run x = open(2);
         x.cast(0, 0, 1);
         x.cast(1, 1, 1);
         Due.no("when OPEN", x.forge(0, 4, 4));
@@ -373,9 +325,9 @@ public final class PromiseTests {
         x.mix();
         Due.same("forged a", x.list(1, 1, 0), 9);
         Due.same("forged b", x.list(1, 1, 1), 6);
-        Due.same("the other place", x.list(1, 0, 0), pow(4, 3, 23));
+        Due.same("the other place", x.list(1, 0, 0), Reckon.pow(4, 3, 23));
         mixWith(x, 0, 0);
-        Due.same("forged once only", x.list(2, 0, 0), pow(4, 3, 23));
+        Due.same("forged once only", x.list(2, 0, 0), Reckon.pow(4, 3, 23));
         x.forge(0, 1, 1);
         stage(x, 0, 0);
         x.shadow();
@@ -384,24 +336,24 @@ public final class PromiseTests {
         Due.same("rejected", x.coin(0), 0);
         stage(x, 0, 0);
         x.shadow();
-        Due.same("forged once only", x.shadowOf(0, 0), pow(4, 3, 23));
-        Due.no("in SETUP", new MixElection(23, 2, 3, 2).forge(0, 4, 4));
+        Due.same("forged once only", x.shadowOf(0, 0), Reckon.pow(4, 3, 23));
+        Due.no("in SETUP", new Run(23, 2, 3, 2).forge(0, 4, 4));
         Due.no("no place", closed(0).forge(0, 4, 4));
-        MixElection told = told(2);
+        Run told = told(2);
         Due.no("when TOLD", told.forge(0, 4, 4));
         forgedAlikeIsAccepted();
     }
 
     /** What is forged counts by what stands there, not by its having been forged. */
     private static void forgedAlikeIsAccepted() {
-        MixElection x = closed(1);
+        Run x = closed(1);
         x.forge(0, x.list(0, 0, 0) * 4 % 23, x.list(0, 0, 1) * 18 % 23);
         mixWith(x, 0, 1);
         Due.same("as if made anew", roundWith(x, 0, 5, 1), 1);
     }
 
-    private static MixElection told(int voters) {
-        MixElection x = closed(voters);
+    private static Run told(int voters) {
+        Run x = closed(voters);
         mixWith(x, 1, 3);
         roundWith(x, 1, 7, 0);
         x.share(1);
@@ -411,7 +363,7 @@ public final class PromiseTests {
     }
 
     private static void mix() {
-        MixElection x = open(3);
+        Run x = open(3);
         Due.same("when OPEN", x.mix(), NONE);
         for (int v = 0; v < 3; v++) {
             x.cast(v, 0, v);
@@ -428,8 +380,8 @@ public final class PromiseTests {
         Due.same("mix", x.mix(), 1);
         for (int i = 0; i < 3; i++) {
             int r = new int[] {1, 2, 10}[i];
-            Due.same("a made anew", x.list(1, (i + 1) % 3, 0), x.list(0, i, 0) * pow(4, r, 23) % 23);
-            Due.same("b made anew", x.list(1, (i + 1) % 3, 1), x.list(0, i, 1) * pow(18, r, 23) % 23);
+            Due.same("a made anew", x.list(1, (i + 1) % 3, 0), x.list(0, i, 0) * Reckon.pow(4, r, 23) % 23);
+            Due.same("b made anew", x.list(1, (i + 1) % 3, 1), x.list(0, i, 1) * Reckon.pow(18, r, 23) % 23);
         }
         entryIs(x, 5, 4, 1, 0, digestOfList(x, 1));
         Due.same("the staging is empty behind it", x.about(15), 0);
@@ -437,7 +389,7 @@ public final class PromiseTests {
             stage(x, m, m);
             Due.same("mix", x.mix(), m);
             entryIs(x, 4 + m, 4, m, 0, digestOfList(x, m));
-            Due.same("from the latest list", x.list(m, m % 3, 0), x.list(m - 1, 0, 0) * pow(4, m, 23) % 23);
+            Due.same("from the latest list", x.list(m, m % 3, 0), x.list(m - 1, 0, 0) * Reckon.pow(4, m, 23) % 23);
         }
         stage(x, 0, 0);
         Due.same("a fifth", x.mix(), NONE);
@@ -447,7 +399,7 @@ public final class PromiseTests {
     }
 
     private static void noMixWhenDueOrShared() {
-        MixElection x = closed(2);
+        Run x = closed(2);
         mixWith(x, 0, 1);
         stage(x, 0, 1);
         x.shadow();
@@ -467,12 +419,12 @@ public final class PromiseTests {
         Due.same("rounds", x.about(11), 1);
         Due.same("mix when TOLD", told(0).mix(), NONE);
         Due.same("shadow when TOLD", told(0).shadow(), NONE);
-        Due.same("mix in SETUP", new MixElection(11, 1, 1, 1).mix(), NONE);
-        Due.same("shadow in SETUP", new MixElection(11, 1, 1, 1).shadow(), NONE);
+        Due.same("mix in SETUP", new Run(11, 1, 1, 1).mix(), NONE);
+        Due.same("shadow in SETUP", new Run(11, 1, 1, 1).shadow(), NONE);
     }
 
     private static void shadow() {
-        MixElection x = closed(3);
+        Run x = closed(3);
         stage(x, 1, 1);
         Due.same("no mix", x.shadow(), NONE);
         Due.same("the staging stays", x.about(15), 1);
@@ -483,8 +435,8 @@ public final class PromiseTests {
             Due.same("shadow", x.shadow(), round);
             for (int i = 0; i < 3; i++) {
                 int to = (i + round) % 3;
-                Due.same("a", x.shadowOf(to, 0), x.list(0, i, 0) * pow(4, round, 23) % 23);
-                Due.same("b", x.shadowOf(to, 1), x.list(0, i, 1) * pow(18, round, 23) % 23);
+                Due.same("a", x.shadowOf(to, 0), x.list(0, i, 0) * Reckon.pow(4, round, 23) % 23);
+                Due.same("b", x.shadowOf(to, 1), x.list(0, i, 1) * Reckon.pow(18, round, 23) % 23);
             }
             entryIs(x, x.about(8) - 1, 5, round, 1, digestOfShadow(x));
             Due.same("the staging is empty behind it", x.about(15), 0);
@@ -497,12 +449,12 @@ public final class PromiseTests {
         Due.same("rounds of the new mix", x.about(11), 0);
         stage(x, 2, 2);
         Due.same("its first", x.shadow(), 1);
-        Due.same("from list 1", x.shadowOf(2, 0), x.list(1, 0, 0) * pow(4, 2, 23) % 23);
+        Due.same("from list 1", x.shadowOf(2, 0), x.list(1, 0, 0) * Reckon.pow(4, 2, 23) % 23);
         entryIs(x, x.about(8) - 1, 5, 1, 2, digestOfShadow(x));
     }
 
     private static void coin() {
-        MixElection x = closed(3);
+        Run x = closed(3);
         Due.same("no shadow", x.coin(0), NONE);
         mixWith(x, 1, 9);
         Due.same("a mix is none", x.coin(0), NONE);
@@ -520,18 +472,18 @@ public final class PromiseTests {
         entryIs(x, x.about(8) - 1, 6, 2, 0, 1);
         coinsOnForgedShadow();
         coinsOnForgedMix();
-        Due.same("in SETUP", new MixElection(11, 1, 1, 1).coin(0), NONE);
+        Due.same("in SETUP", new Run(11, 1, 1, 1).coin(0), NONE);
         Due.same("when TOLD", told(1).coin(0), NONE);
     }
 
     private static void coinsOnForgedShadow() {
         for (int part = 0; part < 2; part++) {
             for (int c = 0; c < 2; c++) {
-                MixElection x = closed(3);
+                Run x = closed(3);
                 mixWith(x, 1, 9);
                 // One part of the pair stays right.
-                int a = x.list(0, 2, 0) * pow(4, 5, 23) % 23;
-                int b = x.list(0, 2, 1) * pow(18, 5, 23) % 23;
+                int a = x.list(0, 2, 0) * Reckon.pow(4, 5, 23) % 23;
+                int b = x.list(0, 2, 1) * Reckon.pow(18, 5, 23) % 23;
                 x.forge(2, part == 0 ? a * 4 % 23 : a, part == 1 ? b * 4 % 23 : b);
                 Due.same("a forged shadow", roundWith(x, 0, 5, c), 0);
                 Due.same("rejected", x.about(12), 1);
@@ -541,7 +493,7 @@ public final class PromiseTests {
     }
 
     private static void coinsOnForgedMix() {
-        MixElection x = closed(3);
+        Run x = closed(3);
         x.forge(1, 4, 4);
         mixWith(x, 1, 9);
         Due.same("coin 0 does not see it", roundWith(x, 2, 5, 0), 1);
@@ -555,7 +507,7 @@ public final class PromiseTests {
     }
 
     private static void share() {
-        MixElection x = open(2);
+        Run x = open(2);
         Due.same("when OPEN", x.share(1), NONE);
         x.cast(0, 0, 1);
         x.cast(1, 1, 2);
@@ -571,9 +523,9 @@ public final class PromiseTests {
         }
         Due.same("share 3", x.share(3), 1);
         // f(3) = 3 + 5 * 3 = 18, modulo 11 it is 7.
-        int first = pow(x.list(1, 0, 0), 7, 23);
-        int second = pow(x.list(1, 1, 0), 7, 23);
-        entryIs(x, x.about(8) - 1, 7, 3, 0, digest(0, first, second));
+        int first = Reckon.pow(x.list(1, 0, 0), 7, 23);
+        int second = Reckon.pow(x.list(1, 1, 0), 7, 23);
+        entryIs(x, x.about(8) - 1, 7, 3, 0, Reckon.digest(0, first, second));
         Due.same("it has", x.share(3), NONE);
         Due.same("share 1", x.share(1), 2);
         Due.same("share 2", x.share(2), 3);
@@ -583,13 +535,13 @@ public final class PromiseTests {
     }
 
     private static int shareWithoutRound() {
-        MixElection x = closed(1);
+        Run x = closed(1);
         mixWith(x, 0, 0);
         return x.share(2);
     }
 
     private static void tally() {
-        MixElection x = closed(5);
+        Run x = closed(5);
         Due.same("no mix", x.tally(), NONE);
         mixWith(x, 1, 1);
         roundWith(x, 3, 8, 1);
@@ -600,9 +552,9 @@ public final class PromiseTests {
         Due.same("stage", x.about(7), 2);
         Due.same("tally", x.tally(), 5);
         Due.same("stage", x.about(7), 3);
-        entryIs(x, x.about(8) - 1, 8, 5, 0, digest(0, 3, 2));
+        entryIs(x, x.about(8) - 1, 8, 5, 0, Reckon.digest(0, 3, 2));
         Due.same("again", x.tally(), NONE);
-        Due.same("in SETUP", new MixElection(11, 1, 1, 1).tally(), NONE);
+        Due.same("in SETUP", new Run(11, 1, 1, 1).tally(), NONE);
         Due.same("when OPEN", open(1).tally(), NONE);
         noTallyWithoutRounds();
         noTallyWhenRejected();
@@ -611,7 +563,7 @@ public final class PromiseTests {
 
     private static void noTallyWithoutRounds() {
         for (int without = 1; without <= 3; without++) {
-            MixElection x = closed(2);
+            Run x = closed(2);
             for (int m = 1; m <= 3; m++) {
                 mixWith(x, 1, m);
                 if (m != without) {
@@ -626,7 +578,7 @@ public final class PromiseTests {
     }
 
     private static void noTallyWhenRejected() {
-        MixElection x = closed(2);
+        Run x = closed(2);
         mixWith(x, 1, 1);
         x.forge(0, 1, 1);
         Due.same("rejected", roundWith(x, 0, 3, 0), 0);
@@ -640,11 +592,11 @@ public final class PromiseTests {
     }
 
     private static void ballotsForNobody() {
-        MixElection x = open(4);
+        Run x = open(4);
         x.cast(0, 1, 1);
         // The marks are 4 and 16; 1 and 4^3 are no marks of the two candidates.
         x.castPair(1, 4, 18);
-        x.castPair(2, 1, pow(4, 3, 23));
+        x.castPair(2, 1, Reckon.pow(4, 3, 23));
         x.castPair(3, 1, 4);
         x.close();
         mixWith(x, 2, 6);
@@ -655,73 +607,32 @@ public final class PromiseTests {
         Due.same("for 0", x.count(0), 1);
         Due.same("for 1", x.count(1), 1);
         Due.same("for nobody", x.count(2), 2);
-        entryIs(x, x.about(8) - 1, 8, 2, 2, digest(0, 1, 1));
-    }
-
-    /** Each set of trustees that is enough tells the same, the smallest and the greatest group alike. */
-    private static void tallyByAnyEnoughTrustees() {
-        for (int prime : new int[] {11, 23, 47, 999959}) {
-            for (int k = 1; k <= 5; k++) {
-                for (int set = 0; set < 32; set++) {
-                    tallyBySet(prime, k, set);
-                }
-            }
-        }
-    }
-
-    private static void tallyBySet(int prime, int k, int set) {
-        MixElection x = new MixElection(prime, 3, 5, k);
-        int q = x.about(1);
-        for (int i = 0; i < x.about(5); i++) {
-            x.secret(i, (q - 1 - i) % q);
-        }
-        for (int v = 0; v < 4; v++) {
-            x.voter();
-        }
-        x.key();
-        for (int v = 0; v < 4; v++) {
-            x.cast(v, v % 3, (v * 12345 + 1) % q);
-        }
-        x.close();
-        mixWith(x, 3, q - 1);
-        roundWith(x, 1, q / 2, 1);
-        int gave = 0;
-        // Given from the last trustee to the first: their order of giving does not count.
-        for (int j = x.about(4); j >= 1; j--) {
-            if ((set >> (j - 1) & 1) == 1) {
-                gave++;
-                Due.same("share", x.share(j), gave);
-            }
-        }
-        boolean enough = gave >= x.about(5);
-        Due.same("tally by " + set, x.tally(), enough ? 4 : NONE);
-        Due.same("for 0", x.count(0), enough ? 2 : NONE);
-        Due.same("for 2", x.count(2), enough ? 1 : NONE);
+        entryIs(x, x.about(8) - 1, 8, 2, 2, Reckon.digest(0, 1, 1));
     }
 
     // ---- promises 15 to 22
 
     private static void count() {
-        MixElection x = closed(3);
+        Run x = closed(3);
         Due.same("when CLOSED", x.count(0), NONE);
-        MixElection y = told(3);
+        Run y = told(3);
         Due.same("for 0", y.count(0), 2);
         Due.same("for 1", y.count(1), 1);
         Due.same("for nobody", y.count(2), 0);
         for (int wrong : new int[] {-1, 3, 11, MIN, MAX}) {
             Due.same("others", y.count(wrong), NONE);
         }
-        Due.same("in SETUP", new MixElection(11, 1, 1, 1).count(0), NONE);
+        Due.same("in SETUP", new Run(11, 1, 1, 1).count(0), NONE);
     }
 
-    private static void aboutIs(MixElection x, int... want) {
+    private static void aboutIs(Run x, int... want) {
         for (int what = 0; what < want.length; what++) {
             Due.same("about(" + what + ")", x.about(what), want[what]);
         }
     }
 
     private static void about() {
-        MixElection x = new MixElection(23, 2, 3, 2);
+        Run x = new Run(23, 2, 3, 2);
         aboutIs(x, 23, 11, 0, 2, 3, 2, 0, 0, 0, NONE, 0, 0, 0, 0, 0, NONE);
         x.voter();
         x.voter();
@@ -751,7 +662,7 @@ public final class PromiseTests {
     }
 
     private static void list() {
-        MixElection x = open(2);
+        Run x = open(2);
         x.cast(0, 0, 1);
         Due.same("ahead of close()", x.list(0, 0, 0), NONE);
         x.cast(1, 0, 2);
@@ -772,18 +683,18 @@ public final class PromiseTests {
         }
         Due.same("list 4", x.list(4, 1, 0), 16);
         Due.same("list 5", x.list(5, 0, 0), NONE);
-        Due.same("when TOLD", told(1).list(1, 0, 0), pow(4, 4, 23));
+        Due.same("when TOLD", told(1).list(1, 0, 0), Reckon.pow(4, 4, 23));
     }
 
     private static void shadowOf() {
-        MixElection x = closed(2);
+        Run x = closed(2);
         Due.same("no shadow", x.shadowOf(0, 0), NONE);
         mixWith(x, 0, 0);
         Due.same("a mix is none", x.shadowOf(0, 0), NONE);
         stage(x, 0, 1);
         x.shadow();
         int a = 4 * 4 % 23;
-        int b = 4 * pow(18, 2, 23) % 23;
+        int b = 4 * Reckon.pow(18, 2, 23) % 23;
         Due.same("a", x.shadowOf(0, 0), a);
         Due.same("b", x.shadowOf(0, 1), b);
         for (int wrong : new int[] {-1, 2, 40, 41, MIN, MAX}) {
@@ -797,7 +708,7 @@ public final class PromiseTests {
     }
 
     private static void shown() {
-        MixElection x = closed(3);
+        Run x = closed(3);
         Due.same("no coin", x.shown(0, 0), NONE);
         mixWith(x, 1, 4);
         Due.same("no coin", x.shown(0, 0), NONE);
@@ -833,7 +744,7 @@ public final class PromiseTests {
     }
 
     private static void shownWhenRejected() {
-        MixElection x = closed(2);
+        Run x = closed(2);
         x.forge(0, 1, 1);
         mixWith(x, 1, 2);
         Due.same("rejected", roundWith(x, 0, 1, 1), 0);
@@ -842,7 +753,7 @@ public final class PromiseTests {
     }
 
     private static void given() {
-        MixElection x = closed(2);
+        Run x = closed(2);
         mixWith(x, 1, 4);
         Due.same("gave none", x.given(1, 0), NONE);
         // f(1) = 8, f(2) = 13 or 2, f(3) = 18 or 7.
@@ -850,8 +761,8 @@ public final class PromiseTests {
         for (int j = 3; j >= 1; j--) {
             Due.same("gave none", x.given(j, 0), NONE);
             x.share(j);
-            Due.same("place 0", x.given(j, 0), pow(x.list(1, 0, 0), f[j], 23));
-            Due.same("place 1", x.given(j, 1), pow(x.list(1, 1, 0), f[j], 23));
+            Due.same("place 0", x.given(j, 0), Reckon.pow(x.list(1, 0, 0), f[j], 23));
+            Due.same("place 1", x.given(j, 1), Reckon.pow(x.list(1, 1, 0), f[j], 23));
         }
         for (int wrong : new int[] {-1, 0, 4, 5, 6, MIN, MAX}) {
             Due.same("no such trustee", x.given(wrong, 0), NONE);
@@ -859,11 +770,11 @@ public final class PromiseTests {
         for (int wrong : new int[] {-1, 2, 39, 40, MIN, MAX}) {
             Due.same("no such place", x.given(1, wrong), NONE);
         }
-        Due.same("in SETUP", new MixElection(11, 1, 1, 1).given(1, 0), NONE);
+        Due.same("in SETUP", new Run(11, 1, 1, 1).given(1, 0), NONE);
     }
 
     private static void entry() {
-        MixElection x = new MixElection(23, 2, 3, 2);
+        Run x = new Run(23, 2, 3, 2);
         Due.same("no entry", x.entry(0, 0), 0);
         x.key();
         entryIs(x, 0, 1, 4, 3, 2);
@@ -873,7 +784,7 @@ public final class PromiseTests {
         for (int wrong : new int[] {-1, 4, MIN, MAX}) {
             Due.same("no such number", x.entry(0, wrong), 0);
         }
-        MixElection y = told(2);
+        Run y = told(2);
         int[] kinds = {1, 2, 2, 3, 4, 5, 6, 7, 7, 8};
         for (int i = 0; i < kinds.length; i++) {
             Due.same("kind of " + i, y.entry(i, 0), kinds[i]);
@@ -882,17 +793,17 @@ public final class PromiseTests {
     }
 
     private static void chain() {
-        MixElection x = told(3);
+        Run x = told(3);
         Due.same("ahead of all", x.chain(NONE), -3750763034362895579L);
         long d = x.chain(NONE);
         for (int i = 0; i < x.about(8); i++) {
-            d = digest(d, x.entry(i, 0), x.entry(i, 1), x.entry(i, 2), x.entry(i, 3));
+            d = Reckon.digest(d, x.entry(i, 0), x.entry(i, 1), x.entry(i, 2), x.entry(i, 3));
             Due.same("chain of " + i, x.chain(i), d);
         }
         for (int wrong : new int[] {-2, x.about(8), 599, 600, MIN, MAX}) {
             Due.same("others", x.chain(wrong), 0);
         }
-        Due.same("a new object", new MixElection(11, 1, 1, 1).chain(0), 0);
-        Due.same("a new object", new MixElection(11, 1, 1, 1).chain(-1), -3750763034362895579L);
+        Due.same("a new object", new Run(11, 1, 1, 1).chain(0), 0);
+        Due.same("a new object", new Run(11, 1, 1, 1).chain(-1), -3750763034362895579L);
     }
 }

@@ -75,7 +75,7 @@ public final class RoomTests {
         }
     }
 
-    /** The dearest calls, on as many ballots and as great numbers as there can be. */
+    /** 497 calls, the dearest among them, on as many ballots and as great numbers as there can be. */
     private static void dearestRun(MixElection x) {
         for (int i = 0; i < 5; i++) {
             x.secret(i, 499978 - i);
@@ -91,7 +91,7 @@ public final class RoomTests {
         for (int m = 0; m < 2; m++) {
             stage(x);
             x.mix();
-            for (int round = 0; round < 4; round++) {
+            for (int round = 0; round < 3; round++) {
                 stage(x);
                 x.shadow();
                 x.coin(round % 2);
@@ -102,8 +102,8 @@ public final class RoomTests {
             x.share(j);
         }
         x.tally();
-        for (int what = 0; what < 16; what++) {
-            x.about(what);
+        for (int what = 0; what < 8; what++) {
+            x.about(2 * what + 1);
             x.count(what);
             x.list(what, what, 0);
             x.shadowOf(what, 1);
