@@ -48,23 +48,22 @@ public final class MixElection {
     private final Moves mixMoves;
     private final Moves shadowMoves;
     private final Moves shownMoves;
-    /** By the number of the mix. */
-    private final int[] rounds;
     /** By candidate, and behind the last of them those for nobody. */
     private final int[] counts;
     private int stage;
     private int voters;
     private int ballots;
     private int mixes;
+    private int mixesWithRounds;
+    /** Of the latest mix. */
+    private int rounds;
     private int rejectedRounds;
     private boolean coinIsDue;
 
     public MixElection(int prime, int candidates, int trustees, int threshold) {
         group = new Group(Numbers.safePrimeFrom(Numbers.within(prime, LEAST_PRIME, GREATEST_PRIME)));
-        int order = group.order();
-        this.candidates = Numbers.within(candidates, 1, Math.min(MOST_CANDIDATES, order - 2));
-        int trusteeCount = Numbers.within(trustees, 1, Math.min(MOST_TRUSTEES, order - 1));
-        this.trustees = new Trustees(group, trusteeCount, Numbers.within(threshold, 1, trusteeCount));
+        this.candidates = Numbers.within(candidates, 1, Math.min(MOST_CANDIDATES, group.order() - 2));
+        this.trustees = new Trustees(group, trustees, threshold);
         board = new Board();
         lastBallots = new Pairs();
         lists = new Pairs[MOST_MIXES + 1];
@@ -76,8 +75,7 @@ public final class MixElection {
         mixMoves = new Moves();
         shadowMoves = new Moves();
         shownMoves = new Moves();
-        rounds = new int[MOST_MIXES + 1];
-        counts = new int[MOST_CANDIDATES + 1];
+        counts = new int[this.candidates + 1];
         stage = SETUP;
     }
 
@@ -148,33 +146,33 @@ public final class MixElection {
         if (!mayShuffle() || mixes >= MOST_MIXES) {
             return NONE;
         }
-        Pairs before = lists[mixes];
+        giveOut(listOf(mixes), listOf(mixes + 1), mixMoves);
         mixes++;
-        Pairs after = lists[mixes];
-        giveOut(before, after, mixMoves);
-        board.add(MIX_ENTRY, mixes, 0, after.digest(ballots));
+        rounds = 0;
+        board.add(MIX_ENTRY, mixes, 0, listOf(mixes).digest(ballots));
         return mixes;
     }
 
     public int shadow() {
-        if (!mayShuffle() || mixes < 1 || rounds[mixes] >= MOST_ROUNDS) {
+        if (!mayShuffle() || mixes < 1 || rounds >= MOST_ROUNDS) {
             return NONE;
         }
-        giveOut(lists[mixes - 1], latestShadow, shadowMoves);
-        rounds[mixes]++;
+        giveOut(listOf(mixes - 1), latestShadow, shadowMoves);
+        mixesWithRounds += rounds == 0 ? 1 : 0;
+        rounds++;
         coinIsDue = true;
-        board.add(SHADOW_ENTRY, rounds[mixes], mixes, latestShadow.digest(ballots));
-        return rounds[mixes];
+        board.add(SHADOW_ENTRY, rounds, mixes, latestShadow.digest(ballots));
+        return rounds;
     }
 
     public int coin(int c) {
-        if (!coinIsDue || mixes < 1 || (c != 0 && c != 1)) {
+        if (!coinIsDue || (c != 0 && c != 1)) {
             return NONE;
         }
         coinIsDue = false;
         int accepted = (c == 0 ? showShadow() : showMix()) ? 1 : 0;
         rejectedRounds += 1 - accepted;
-        board.add(COIN_ENTRY, rounds[mixes], c, accepted);
+        board.add(COIN_ENTRY, rounds, c, accepted);
         return accepted;
     }
 
@@ -182,24 +180,24 @@ public final class MixElection {
         if (stage != CLOSED || mixes < 1 || coinIsDue || !trustees.mayGive(j)) {
             return NONE;
         }
-        trustees.give(j, lists[mixes], ballots);
+        trustees.give(j, listOf(mixes), ballots);
         board.add(SHARE_ENTRY, j, 0, trustees.digest(j, ballots));
         return trustees.givers();
     }
 
     public int tally() {
-        if (stage != CLOSED || rejectedRounds > 0 || someMixHasNoRound() || !trustees.areEnough()) {
+        if (stage != CLOSED || rejectedRounds > 0 || mixesWithRounds < mixes || !trustees.areEnough()) {
             return NONE;
         }
         stage = TOLD;
-        int forNobody = countBallots();
-        counts[candidates] = forNobody;
+        countBallots();
+        int forNobody = count(candidates);
         board.add(TALLY_ENTRY, ballots - forNobody, forNobody, digestOfCounts());
         return ballots - forNobody;
     }
 
     public int count(int c) {
-        return stage == TOLD && c >= 0 && c <= candidates ? counts[c] : NONE;
+        return stage == TOLD && c >= 0 && c < counts.length ? counts[c] : NONE;
     }
 
     public int about(int what) {
@@ -215,7 +213,7 @@ public final class MixElection {
             case 8: return board.size();
             case 9: return stage < CLOSED ? NONE : ballots;
             case 10: return mixes;
-            case 11: return rounds[mixes];
+            case 11: return rounds;
             case 12: return rejectedRounds;
             case 13: return trustees.givers();
             case 14: return coinIsDue ? 1 : 0;
@@ -225,7 +223,7 @@ public final class MixElection {
     }
 
     public int list(int m, int i, int part) {
-        return m >= 0 && m <= mixes && isBallot(i) ? lists[m].part(i, part) : NONE;
+        return m >= 0 && m <= mixes && isBallot(i) ? listOf(m).part(i, part) : NONE;
     }
 
     public int shadowOf(int i, int part) {
@@ -262,6 +260,11 @@ public final class MixElection {
     /** Ahead of close() there are no ballots in a LIST, so no place is one. */
     private boolean isBallot(int i) {
         return i >= 0 && i < ballots;
+    }
+
+    /** No call asks for a LIST that can't be; LIST 0 stands in for it so that no index goes astray. */
+    private Pairs listOf(int m) {
+        return m >= 0 && m < lists.length ? lists[m] : lists[0];
     }
 
     private boolean mayCast(int voter) {
@@ -304,7 +307,7 @@ public final class MixElection {
     /** COIN 0. */
     private boolean showShadow() {
         shownMoves.copyFrom(shadowMoves);
-        return shownMoves.lead(group, lists[mixes - 1], latestShadow, ballots);
+        return shownMoves.lead(group, listOf(mixes - 1), latestShadow, ballots);
     }
 
     /** COIN 1. */
@@ -313,47 +316,33 @@ public final class MixElection {
             int exponent = Numbers.minus(mixMoves.exponent(i), shadowMoves.exponent(i), group.order());
             shownMoves.set(shadowMoves.target(i), mixMoves.target(i), exponent);
         }
-        return shownMoves.lead(group, latestShadow, lists[mixes], ballots);
+        return shownMoves.lead(group, latestShadow, listOf(mixes), ballots);
     }
 
-    private boolean someMixHasNoRound() {
-        for (int m = 1; m <= mixes; m++) {
-            if (rounds[m] == 0) {
-                return true;
-            }
-        }
-        return false;
-    }
-
-    /** Counts the candidates' ballots; how many are for nobody. */
-    private int countBallots() {
-        int forNobody = 0;
+    private void countBallots() {
         trustees.weighFirstGivers();
         for (int i = 0; i < ballots; i++) {
-            int opened = group.divided(lists[mixes].second(i), trustees.joinedGift(i));
-            int candidate = candidateOf(opened);
-            if (candidate == NONE) {
-                forNobody++;
-            } else {
-                counts[candidate]++;
+            int c = candidateOf(group.divided(listOf(mixes).second(i), trustees.joinedGift(i)));
+            if (c >= 0 && c < counts.length) {
+                counts[c]++;
             }
         }
-        return forNobody;
     }
 
+    /** Of what is no MARK the number behind the last candidate's, by which those for nobody are counted. */
     private int candidateOf(int opened) {
         for (int c = 0; c < candidates; c++) {
             if (group.markOf(c) == opened) {
                 return c;
             }
         }
-        return NONE;
+        return candidates;
     }
 
     private long digestOfCounts() {
         long digest = 0;
         for (int c = 0; c < candidates; c++) {
-            digest = Numbers.digested(digest, counts[c]);
+            digest = Numbers.digested(digest, count(c));
         }
         return digest;
     }
@@ -658,16 +647,15 @@ public final class MixElection {
         private final int[] weights;
         private int givers;
 
-        /** Size and threshold are at most MOST_TRUSTEES. */
         Trustees(Group group, int size, int threshold) {
             this.group = group;
-            this.size = size;
-            this.threshold = threshold;
-            coefficients = new int[MOST_TRUSTEES];
+            this.size = Numbers.within(size, 1, Math.min(MOST_TRUSTEES, group.order() - 1));
+            this.threshold = Numbers.within(threshold, 1, this.size);
+            coefficients = new int[this.threshold];
             coefficients[0] = 1;
-            hasGiven = new boolean[MOST_TRUSTEES + 1];
-            gifts = new int[MOST_TRUSTEES + 1][MOST_VOTERS];
-            weights = new int[MOST_TRUSTEES + 1];
+            hasGiven = new boolean[this.size + 1];
+            gifts = new int[this.size + 1][MOST_VOTERS];
+            weights = new int[this.size + 1];
         }
 
         int size() {
@@ -706,6 +694,10 @@ public final class MixElection {
             return isTrustee(j) && !hasGiven[j];
         }
 
+        private boolean gave(int j) {
+            return isTrustee(j) && hasGiven[j];
+        }
+
         void give(int j, Pairs ballots, int length) {
             if (!mayGive(j) || length > MOST_VOTERS) {
                 return;
@@ -727,7 +719,7 @@ public final class MixElection {
         }
 
         int gift(int j, int i) {
-            return isTrustee(j) && hasGiven[j] && i >= 0 && i < MOST_VOTERS ? gifts[j][i] : NONE;
+            return gave(j) && i >= 0 && i < MOST_VOTERS ? gifts[j][i] : NONE;
         }
 
         long digest(int j, int length) {
@@ -741,15 +733,15 @@ public final class MixElection {
         /** Lagrange's weights at 0, for the first trustees that gave a SHARE, as many as are needed. */
         void weighFirstGivers() {
             int last = lastNeededGiver();
-            for (int j = 1; j <= last; j++) {
-                weights[j] = hasGiven[j] ? weightOf(j, last) : 0;
+            for (int j = 1; j <= size; j++) {
+                weights[j] = j <= last && gave(j) ? weightOf(j, last) : 0;
             }
         }
 
         private int lastNeededGiver() {
             int found = 0;
             for (int j = 1; j <= size; j++) {
-                found += hasGiven[j] ? 1 : 0;
+                found += gave(j) ? 1 : 0;
                 if (found == threshold) {
                     return j;
                 }
@@ -762,7 +754,7 @@ public final class MixElection {
             int above = 1;
             int below = 1;
             for (int k = 1; k <= last; k++) {
-                if (k != j && hasGiven[k]) {
+                if (k != j && gave(k)) {
                     above = Numbers.times(above, k, order);
                     below = Numbers.times(below, Numbers.minus(k, j, order), order);
                 }

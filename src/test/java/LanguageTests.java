@@ -1,3 +1,4 @@
+import com.sun.source.tree.ArrayAccessTree;
 import com.sun.source.tree.ArrayTypeTree;
 import com.sun.source.tree.AssignmentTree;
 import com.sun.source.tree.BinaryTree;
@@ -73,6 +74,7 @@ public final class LanguageTests {
         tests.rule6NoExceptionsAndCastsOfNumbersAlone();
         tests.rule6NumbersAloneAreCompared();
         tests.rule7ADivisorIsLookedAt();
+        tests.rule7AnIndexIsLookedAt();
         tests.rule7NothingIsNull();
         tests.rule9EachLoopCountsTowardsABound();
         tests.rules8And11CallsGoAtMostEightDeep();
@@ -297,6 +299,36 @@ public final class LanguageTests {
                     && counter.getName().contentEquals(divisor.toString()) && isAbove0(counter.getInitializer())) {
                 return loop.getUpdate().size() == 1
                     && loop.getUpdate().get(0).getExpression().getKind() == Kind.PLUS_ASSIGNMENT;
+            }
+        }
+        return false;
+    }
+
+    /** In the same method, by a comparison of it with a bound, or by an own test of it that does so. */
+    private void rule7AnIndexIsLookedAt() {
+        for (TreePath path : source.paths()) {
+            if (path.getLeaf() instanceof ArrayAccessTree access && !(access.getIndex() instanceof LiteralTree)) {
+                String index = access.getIndex().toString();
+                Due.yes("rule 7: the index of " + source.line(access),
+                    isLookedAt(index, SourceTree.memberAround(path)));
+            }
+        }
+    }
+
+    private boolean isLookedAt(String index, Tree member) {
+        Set<Kind> bounds = EnumSet.of(Kind.LESS_THAN, Kind.LESS_THAN_EQUAL, Kind.GREATER_THAN_EQUAL);
+        for (TreePath path : source.paths()) {
+            if (SourceTree.memberAround(path) != member) {
+                continue;
+            }
+            if (path.getLeaf() instanceof BinaryTree test && bounds.contains(test.getKind())
+                    && test.getLeftOperand().toString().equals(index)) {
+                return true;
+            }
+            if (path.getLeaf() instanceof MethodInvocationTree call && call.getArguments().size() == 1
+                    && Set.of("isTrustee", "mayGive", "gave", "has").contains(call.getMethodSelect().toString())
+                    && call.getArguments().get(0).toString().equals(index)) {
+                return true;
             }
         }
         return false;
